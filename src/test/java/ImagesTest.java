@@ -95,6 +95,16 @@ public final class ImagesTest {
         DUE.is("years of image 0", x.about(0, 1) * 100 + x.about(0, 2), 2090);
         x.restore(1);
         DUE.is("years of image 1", x.about(0, 1) * 100 + x.about(0, 2), 5959);
+        CopiedSkins y = new CopiedSkins();
+        y.image(0);
+        y.picture(11, 1, 2);
+        y.image(1);
+        y.restore(0);
+        y.picture(22, 3, 4);
+        y.restore(1);
+        DUE.is("drawing of image 1", y.about(0, 0), 11);
+        DUE.is("least year of image 1", y.about(0, 1), 1);
+        DUE.is("greatest year of image 1", y.about(0, 2), 2);
         x.set(0, 3);
         x.image(0);
         x.set(0, 4);

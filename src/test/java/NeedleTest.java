@@ -11,6 +11,7 @@ public final class NeedleTest {
         whoGave();
         paths();
         rings();
+        longPath();
         refusals();
         DUE.end();
     }
@@ -204,6 +205,17 @@ public final class NeedleTest {
         DUE.is("path from 7", x.must(3, 1), 4);
         DUE.is("must of 5", x.must(5, 0), 128 + 2 + 4 + 32);
         DUE.is("path to 0", x.must(0, 1), 3);
+    }
+
+    /** A path may have all the men. */
+    private static void longPath() {
+        CopiedSkins x = withMen(8);
+        for (int m = 0; m < 8; m++) {
+            x.meet(m, 10);
+            x.sick(m, 12);
+        }
+        DUE.is("must of all", x.must(7, 0), 255);
+        DUE.is("path of all", x.must(7, 1), 8);
     }
 
     private static void refusals() {

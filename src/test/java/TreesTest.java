@@ -81,6 +81,13 @@ public final class TreesTest {
         DUE.is("two: no more sure from 0", x.sure(2, 0), 0);
         DUE.is("two: no more sure anew", x.sure(2, 9), 0);
         DUE.is("two: still sure anew", x.sure(1, 9), 1);
+        x.set(0, 11);
+        // trees cost 23, 21, 22 then
+        DUE.is("two: of least cost, not a little more", x.least(1), 1);
+        DUE.is("two: a little more", x.kept(1, -1, 0), 2);
+        DUE.is("two: the cheapest one", x.kept(0, 0, 1), 0);
+        x.set(0, 5);
+        DUE.is("two: both anew", x.sure(0, 9), 3);
     }
 
     /** A picture may be traced from one whose least year is no more than its own greatest. */
@@ -168,6 +175,10 @@ public final class TreesTest {
         x.set(0, 99);
         DUE.is("lost anew, NEW is told otherwise", x.lost(-1, 6, 1), 99 + 24);
         DUE.is("lost anew, it saves then", x.lost(-1, 6, 2), 10000 + 198 - 123);
+        // strokes 0 to 3 from 2 to 0, 1, 2, 3: 9, 6, 0, 9; a thick one is as dear as a turned one on the way
+        DUE.is("lost to the first", x.lost(2, 1, 2), 10000);
+        DUE.is("lost to the first, drawing", x.lost(2, 1, 0), Due.drawing("01220000"));
+        DUE.is("lost to the first, cost", x.lost(2, 1, 1), 9 + 6 + 0 + 9);
         CopiedSkins y = new CopiedSkins();
         Due.law(y, "**=0");
         y.picture(65535, 0, 0);
