@@ -1,18 +1,24 @@
 /** Counts answers that are not as due, prints them, and ends a test. */
 final class Due {
     private int wrong;
+    private String sentence = "";
+
+    /** The sentence of the document that the checks behind this are about: it is told with what is wrong. */
+    void sentence(String words) {
+        sentence = words + " | ";
+    }
 
     void is(String what, int got, int want) {
         if (got != want) {
             wrong++;
-            System.out.println(what + ": answered " + got + ", due is " + want);
+            System.out.println(sentence + what + ": answered " + got + ", due is " + want);
         }
     }
 
     void holds(String what, boolean so) {
         if (!so) {
             wrong++;
-            System.out.println(what + ": does not hold");
+            System.out.println(sentence + what + ": does not hold");
         }
     }
 
