@@ -20,6 +20,7 @@ public final class EdgesCoversTest {
         coverOfNothing();
         coverNone();
         coverHidesEachStrokeThatIsThere();
+        coverStrokeIsOfOneKind();
         coverOfLeastInk();
         coverOfSeveralTheLeastNumber();
         coverOfAllThickOnes();
@@ -178,6 +179,19 @@ public final class EdgesCoversTest {
         EDGE.answers(x, 21845, "cover", 65535);
         EDGE.answers(x, 21845, "cover", 43690);
         EDGE.answers(x, 16385, "cover", 32771);
+    }
+
+    private static void coverStrokeIsOfOneKind() {
+        EDGE.sentence("21: STROKES are each 0 none, 1 plain, 2 turned, 3 thick: not plain and thick at once");
+        int[] strokes = {0, 3, 7};
+        for (int s : strokes) {
+            CopiedSkins x = bare();
+            x.hide(s, false, 1);
+            x.hide(s, true, 2);
+            EDGE.answers(x, 1 << 14 - 2 * s, "cover", 16384);
+            EDGE.answers(x, 3 << 14 - 2 * s, "cover", 4096);
+            EDGE.answers(x, NONE, "cover", 20480);
+        }
     }
 
     private static void coverOfLeastInk() {

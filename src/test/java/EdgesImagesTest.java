@@ -148,6 +148,17 @@ public final class EdgesImagesTest {
         EDGE.answers(x, CopiedSkins.UNKNOWN, "about", 1, 0);
         EDGE.answers(x, 1, "picture", 77, 7, 8);
         EDGE.answers(x, 77, "about", 1, 0);
+        EDGE.sentence("29: PICTURES, though others had their numbers since");
+        CopiedSkins y = new CopiedSkins();
+        y.image(0);
+        y.picture(11, 1, 2);
+        y.image(1);
+        y.restore(0);
+        EDGE.answers(y, 0, "picture", 22, 3, 4);
+        y.restore(1);
+        EDGE.answers(y, 11, "about", 0, 0);
+        EDGE.answers(y, 1, "about", 0, 1);
+        EDGE.answers(y, 2, "about", 0, 2);
     }
 
     private static void imageKeepsWidthsAndYears() {

@@ -42,6 +42,7 @@ public final class EdgesTreesTest {
         lostWhat();
         lostOrderOfRefusals();
         lostLeastNumber();
+        lostIsTracedFromTheOne();
         lostSaves();
         lostSavesEnds();
         lostYearsDoNotMatter();
@@ -441,6 +442,24 @@ public final class EdgesTreesTest {
         EDGE.answers(x, 0, "lost", 2, 1, 0);
         EDGE.answers(x, 65535, "lost", 2, 3, 0);
         EDGE.answers(x, 8, "lost", 2, 3, 1);
+        // to plain by plain is nothing, by turned or thick 2 a stroke, by none 18
+        CopiedSkins between = pictures("10=9;01=9;**=1", 21845, 21845);
+        EDGE.answers(between, 21845, "lost", 0, 2, 0);
+        EDGE.answers(between, 0, "lost", 0, 2, 1);
+    }
+
+    private static void lostIsTracedFromTheOne() {
+        EDGE.sentence("14: traced from the one, and from which the others were traced: COST of these together");
+        CopiedSkins x = pictures("**=1", 0, 65535, 65535);
+        // slips on the way to it cost as much as slips behind it
+        EDGE.answers(x, 0, "lost", 0, 2, 0);
+        EDGE.answers(x, 8, "lost", 0, 2, 1);
+        EDGE.answers(x, 65535, "lost", 0, 6, 0);
+        EDGE.answers(x, 0, "lost", 1, 1, 0);
+        EDGE.sentence("14: PICTURE 0 among the others counts as any");
+        EDGE.answers(x, 65535, "lost", -1, 7, 0);
+        EDGE.answers(x, 28, "lost", -1, 7, 1);
+        EDGE.answers(x, 8, "lost", 1, 5, 1);
     }
 
     private static void lostSaves() {
