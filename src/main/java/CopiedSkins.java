@@ -530,7 +530,7 @@ public final class CopiedSkins {
             drawings[number] = drawing;
             earliest[number] = least;
             latest[number] = greatest;
-            // a restore may have left the width of a later picture here
+            // a sheet at first, whatever stood in this place
             widths[number] = 0;
             pictures++;
             return number;
